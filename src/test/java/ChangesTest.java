@@ -227,6 +227,11 @@ public final class ChangesTest {
         Due.is("37: FLIGHT 0", none.frame(0, 0), 0);
         none.touch(0, 2, false);
         Due.is("37: clean then", none.frame(0, 1), 0);
+        SparePager one = Due.loaded("frames 9 0 1 10 4;run a 10 3;in a 0");
+        one.touch(0, 0, true);
+        one.ask(1);
+        Due.is("37: FLIGHT 1", one.frame(0, 2), 1);
+        Due.is("39: lands", one.tick(1), 1);
     }
 
     private static void take() {

@@ -13,6 +13,7 @@ public final class InputTest {
         appendedBytes();
         load();
         loadReplaces();
+        loadBehindLooks();
         refusedLoadKeeps();
         header();
         runLines();
@@ -152,6 +153,26 @@ public final class InputTest {
         Due.refuses("3: undo", Due.STATE, () -> pager.undo());
         Due.refuses("3: nothing saved", Due.STATE, () -> pager.restore(0));
         Due.refuses("3: nothing saved", Due.STATE, () -> pager.restore(1));
+    }
+
+    /** What would be is tried somewhere; nothing of that is left in the next machine. */
+    private static void loadBehindLooks() {
+        String text = "frames 4 0 3 10 4;run a 5 3;run b 2 1;in a 0 1;in b 0";
+        SparePager pager = Due.loaded(text);
+        String fresh = Due.told(pager);
+        pager.tick(9);
+        pager.touch(0, 0, true);
+        pager.touch(1, 0, true);
+        pager.share(0, 1, 0, 2);
+        pager.ask(2);
+        pager.touch(1, 0, true);
+        pager.watch(0, 0, 0);
+        pager.pin(0, 0, true);
+        pager.end(1);
+        pager.would(0, 0, true);
+        pager.victim(72);
+        Due.load(pager, text);
+        Due.isText("3: nothing of the previous machine is left", Due.told(pager), fresh);
     }
 
     private static void refusedLoadKeeps() {

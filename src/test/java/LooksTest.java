@@ -188,7 +188,8 @@ public final class LooksTest {
 
     /** By worth, then by the time of the last use, then by program, then by page. */
     private static void offersInOrder() {
-        SparePager pager = Due.loaded("frames 9 0 3 10 4;run a 10 3;run b 5 12;run c 12 2;in c 0 1;in b 11 2;in a 0 2 1");
+        SparePager pager = Due.loaded(
+                "frames 9 0 3 10 4;run a 10 3;run b 5 12;run c 12 2;in c 0 1;in b 11 2;in a 0 2 1");
         offers(pager, "b.2:5 b.11:5 a.0:10 a.1:10 a.2:10 c.0:12 c.1:12");
         Due.isReal("14: worth", pager.worth(0), 10.0);
         Due.isReal("14: worth", pager.worth(2), 20.0);
@@ -321,7 +322,8 @@ public final class LooksTest {
     }
 
     private static void priceStep() {
-        SparePager pager = Due.loaded("frames 6 0 0 200 0;run a 1 2;run b 9 2;run c 99 1;in a 0 1;in b 0 1;in c 0;pin b 0");
+        SparePager pager = Due.loaded(
+                "frames 6 0 0 200 0;run a 1 2;run b 9 2;run c 99 1;in a 0 1;in b 0 1;in c 0;pin b 0");
         pager.touch(0, 1, true);
         pager.touch(2, 0, true);
         Due.is("20: 0", pager.priceStep(0), 1);
@@ -350,6 +352,7 @@ public final class LooksTest {
         Due.is("21: three", pager.sharers(2, 0), 37);
         Due.is("21: another frame", pager.sharers(5, 10), 32);
         Due.is("21: another frame", pager.sharers(1, 0), 2);
+        Due.is("21: the first page alone", Due.loaded(MACHINE).sharers(0, 0), 1);
         Due.refuses("21: program -1", Due.INDEX, () -> pager.sharers(-1, 0));
         Due.refuses("21: program 6", Due.INDEX, () -> pager.sharers(6, 0));
         Due.refuses("21: page -1", Due.INDEX, () -> pager.sharers(0, -1));
@@ -369,6 +372,9 @@ public final class LooksTest {
         pager.touch(0, 0, true);
         Due.isReal("22: as a float", pager.hitShare(), 2.0f / 3.0f);
         Due.is("22: not as a double", pager.hitShare() == 2.0 / 3.0, false);
+        SparePager one = Due.loaded("frames 2 0 0 0 0;run a 1 4;in a 0");
+        one.touch(0, 0, false);
+        Due.isReal("22: one touch", one.hitShare(), 1.0);
     }
 
     private static void meanTrust() {
@@ -379,6 +385,7 @@ public final class LooksTest {
         pager.end(1);
         Due.isReal("23: of two", pager.meanTrust(), 50.5);
         pager.end(0);
+        Due.isReal("23: of one", pager.meanTrust(), 50.0);
         pager.end(2);
         Due.isReal("23: none", pager.meanTrust(), 0.0);
     }

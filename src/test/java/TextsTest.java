@@ -21,7 +21,8 @@ public final class TextsTest {
     }
 
     private static void programs() {
-        SparePager pager = Due.loaded("frames 9 0 3 10 4;run abcxyz 5 6;run b 3 1;in abcxyz 0 1 2 3;pin abcxyz 1;pin b 0");
+        SparePager pager = Due.loaded(
+                "frames 9 0 3 10 4;run abcxyz 5 6;run b 3 1;in abcxyz 0 1 2 3;pin abcxyz 1;pin b 0");
         program(pager, 0, "abcxyz ii!iioo");
         program(pager, 1, "b o!");
         pager.touch(0, 0, true);
