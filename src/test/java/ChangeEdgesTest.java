@@ -530,7 +530,8 @@ public final class ChangeEdgesTest {
     }
 
     private static void watchedPlaces() {
-        SparePager pager = Due.loaded("frames 64 0 0 0 0;run a 1 12;run b 1 12;run c 1 12;run d 1 12;run e 1 12;run f 1 12");
+        SparePager pager = Due.loaded("frames 64 0 0 0 0;run a 1 12;run b 1 12;run c 1 12;run d 1 12"
+                + ";run e 1 12;run f 1 12");
         for (int place : new int[] {-1, 6, Integer.MIN_VALUE, Integer.MAX_VALUE}) {
             Due.refuses("47: place " + place, Due.INDEX, () -> pager.watched(place));
         }

@@ -4,7 +4,8 @@
  */
 public final class LookEdgesTest {
     private static final int[] FAR = {Integer.MIN_VALUE, Integer.MIN_VALUE + 1, -1000, 1000, Integer.MAX_VALUE};
-    private static final String SIX = "frames 64 0 5 9 4;run a 1 12;run b 1 12;run c 1 12;run d 1 12;run e 1 12;run f 1 12";
+    private static final String SIX = "frames 64 0 5 9 4;run a 1 12;run b 1 12;run c 1 12;run d 1 12"
+            + ";run e 1 12;run f 1 12";
 
     private interface Look {
         void at(int number);

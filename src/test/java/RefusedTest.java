@@ -374,7 +374,7 @@ public final class RefusedTest {
         NOT_LOADED.add(new Refusal("35: textByte 0", Due.INDEX, pager -> pager.textByte(0)));
     }
 
-    /** "except that load, by IllegalArgumentException, empties the input buffer and sets parseError() and errorPosition()". */
+    /** "except that load, by IllegalArgumentException, empties the input buffer and sets parseError() ...". */
     private static void refusedLoadEmptiesTheBuffer() {
         SparePager refused = rich();
         SparePager other = rich();

@@ -395,7 +395,8 @@ public final class TextEdgesTest {
 
     /** "NAME is any word (also one that is quoted here)". */
     private static void nameIsAnyWord() {
-        SparePager pager = fine("frames 9 0 0 0 0;run frames 1 1;run run 2 1;run in 3 1;run pin 4 1;run bluff 5 1 bluff 5"
+        SparePager pager = fine("frames 9 0 0 0 0;run frames 1 1;run run 2 1;run in 3 1;run pin 4 1"
+                + ";run bluff 5 1 bluff 5"
                 + ";in in 0;in run 0;pin pin 0;in frames 0;in bluff 0", 5);
         String[] names = {"frames", "run", "in", "pin", "bluff"};
         for (int program = 0; program < 5; program++) {
@@ -575,7 +576,7 @@ public final class TextEdgesTest {
         error(HEAD + "run a 1 2;in a 0 2", 2, 34);
     }
 
-    /** Code 3: "a NAME that is told already; a PROGRAM that is none; a PAGE that is in already ... or pinned already". */
+    /** Code 3: "a NAME that is told already; a PROGRAM that is none; a PAGE that is in already ...". */
     private static void codeThree() {
         error(HEAD + "run a 1 1;run a 0 0", 3, 31);
         error(HEAD + "run a 1 1;in z 0", 3, 30);
@@ -628,7 +629,7 @@ public final class TextEdgesTest {
         Due.is("10 is in its bounds", pager.errorPosition(), 13);
     }
 
-    /** "IndexOutOfBoundsException if n is negative or greater ...; the buffer, parseError() and errorPosition() stay". */
+    /** "if n is negative or greater ...; the buffer, parseError() and errorPosition() stay". */
     private static void loadWithWrongLengths() {
         for (int bytes : new int[] {0, 20, 600}) {
             SparePager pager = new SparePager();
@@ -744,7 +745,7 @@ public final class TextEdgesTest {
         text(pager, pager.writeProgram(1), "abcdef oooooooooooo");
     }
 
-    /** "o if it is out, s if it shares its frame, d if its frame is dirty (and it does not share it), otherwise i; ...". */
+    /** "o if it is out, s if it shares its frame, d if its frame is dirty (...), otherwise i; ...". */
     private static void programTextMarks() {
         SparePager pager = fine("frames 9 0 0 9 4;run a 1 12;run b 1 1;in a 0 1 2 3 4 5;pin a 1;pin a 11", 2);
         pager.touch(0, 2, true);
